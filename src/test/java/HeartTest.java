@@ -124,9 +124,18 @@ public final class HeartTest {
         y.bare(0, 3);
         Due.due("12 a BARE is a last MINUTE", y.count(0, 3, 1), 9 * 8);
         Due.due("12 MAYBE of it", y.count(0, 3, 0), 96);
+        Due.due("12 not yet known", y.count(0, 2, 1), 96);
         y.storm(32, 2);
         Due.due("12 ahead of THE START", y.count(1, 3, 1), 0);
         Due.due("12 at THE START", y.count(2, 3, 1), 11 * 8);
+        for (int b = 0; b < 9; b++) {
+            StormOffice z = new StormOffice();
+            z.storm(1 << b, 0);
+            z.minutes(1);
+            z.word(1, 50, 0);
+            Due.due("12 back by MOVE " + b, z.count(0, 1, 1), 1);
+            Due.due("12 back by MOVE " + b, z.count(0, 1, 10 + 50 - (b % 3 - 1) - 12 * (b / 3 - 1)), 1);
+        }
     }
 
     private static void quarrel() {

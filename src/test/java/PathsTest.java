@@ -117,5 +117,13 @@ public final class PathsTest {
         Due.due("16 fewest COUNTIES", y.box(1, 500, 0), 8);
         Due.due("16 fewest COUNTIES", y.box(1, 500, 1), 10);
         Due.due("16 nobody's COUNTY stays out", y.box(1, 0, 0), 11);
+        StormOffice z = new StormOffice();
+        z.storm(32, 0);
+        z.word(0, 5, 0);
+        z.land(5, 4, 7, 0);
+        z.land(7, 6, 9, 0);
+        z.land(8, 7, 1, 0);
+        Due.due("16 the first CELL, which is left at once, and the last", z.box(2, 0, 0), 16 + 64);
+        Due.due("16 their PEOPLE", z.box(2, 0, 1), 16);
     }
 }

@@ -89,6 +89,9 @@ public final class RulesTest {
         fault("Lift when 1=1;", 1, 0);
         fault("lift when nearX=1;", 1, 10);
         fault("lift when near1=1;", 1, 14);
+        for (char sign : "azAZ".toCharArray()) fault("lift when near" + sign + "=1;", 1, 10);
+        for (char sign : "`{@[_".toCharArray()) fault("lift when near" + sign + "=1;", 1, 14);
+        for (char sign : ":?!,%&".toCharArray()) fault("lift when 1" + sign + "1;", 1, 11);
         fault("lift\twhen 1=1;", 1, 4);
         fault("lift\rwhen 1=1;", 1, 4);
         fault("lift when 1=1.", 1, 13);
@@ -269,7 +272,13 @@ public final class RulesTest {
         Due.due("22 beside it", x.asks(1, 4), 1);
         x.storm(1 << 4, 0);
         Due.due("22 MOVES do not go there", x.asks(1, 4), 99);
-        // up to twelve MINUTES: with a MOVE that is gone from the land none comes
+        StormOffice z = new StormOffice();
+        z.storm(1 << 5 | 1 << 7, 0);
+        z.word(0, 0, 0);
+        z.land(78, 1, 0, 0);
+        z.land(79, 2, 0, 0);
+        Due.due("22 six to the east, six on in y", z.asks(1, 4), 12);
+        Due.due("22 thirteen are too many", z.asks(2, 4), 99);
         StormOffice y = new StormOffice();
         y.storm(1 << 3, 0);
         y.word(0, 0, 0);

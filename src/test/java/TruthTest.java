@@ -64,6 +64,8 @@ public final class TruthTest {
         x.warn(0, 10);
         Due.due("29 a new beginning", x.safe(5, 0), 10);
         Due.due("29 a new beginning", x.safe(5, 50), 0);
+        Due.due("29 the SIRENS of the earlier one", x.safe(0, 50), 10);
+        Due.due("29 the SIRENS of the earlier one", x.safe(0, 0), 0);
     }
 
     private static void heeding() {
@@ -129,7 +131,6 @@ public final class TruthTest {
         Due.due("26 stays", x.warning(0, 4), 2);
         x.lift(3);
         Due.due("31 lifted", x.judge(), 1);
-        // in their order: from 90 down to 80, then up to 85; the other way round would be 90, 80 .. no: 85
         x.warn(1, 1);
         x.minutes(1);
         x.warn(1, 1);
