@@ -80,9 +80,10 @@ final class Edges {
 
     /** NOW goes on to a MINUTE that is told, without RULES being ON. */
     static void until(StormOffice x, int minute) {
-        while (x.look(0) < minute) {
+        for (int calls = 0; x.look(0) < minute && calls < 12; calls++) {
             x.minutes(Math.min(60, minute - x.look(0)));
         }
+        Due.due(heading + "NOW", x.look(0), minute);
     }
 
     private static void makeBusy(StormOffice x) {

@@ -7,6 +7,7 @@ public final class LandEdgesTest {
     public static void main(String[] args) {
         newObject();
         noneOfAnything();
+        manyCalls();
         land();
         siren();
         storm();
@@ -71,6 +72,25 @@ public final class LandEdgesTest {
         Edges.after(Edges.BUSY);
         Edges.due("another object has nothing of the one before it",
                 Arrays.equals(before, Shown.after(Edges.NEW, office -> 0)), true);
+    }
+
+    private static void manyCalls() {
+        Edges.words(1, "An object is used for at most 512 calls after it has been made");
+        StormOffice x = new StormOffice();
+        for (int i = 1; i < 512; i++) x.land(i % 96, i % 8, i, i % 31);
+        Edges.due("the 512th", x.of(31, 1), 511);
+        StormOffice y = new StormOffice();
+        y.radar(0, 0, 0, 3);
+        for (int i = 0; i < 300; i++) y.seen(0, 0, 0);
+        for (int i = 0; i < 210; i++) y.warn(i % 8, 60);
+        Edges.due("the 512th, behind 300 TELLINGS", y.count(0, 0, 0), 16);
+        StormOffice z = new StormOffice();
+        for (int i = 0; i < 255; i++) {
+            z.warn(i % 8, 60);
+            z.lift(i % 8);
+        }
+        Edges.due("the 511th", z.warn(0, 1), -1);
+        Edges.due("the 512th, behind 200 WARNINGS", z.look(2), 200);
     }
 
     private static void land() {

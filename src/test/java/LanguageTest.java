@@ -30,7 +30,37 @@ public final class LanguageTest {
         members(StormOffice.class);
         Due.due("classes in all", StormOffice.class.getDeclaredClasses().length + 1 <= 12, true);
         text();
+        room();
         Due.finish();
+    }
+
+    /** All objects of a run live in one room, so that calls may make none: rows are made with the object and used again. */
+    private static void room() {
+        com.sun.management.ThreadMXBean thread =
+                (com.sun.management.ThreadMXBean) java.lang.management.ManagementFactory.getThreadMXBean();
+        StormOffice x = Edges.after(Edges.BUSY);
+        dearestCalls(x);
+        long before = thread.getCurrentThreadAllocatedBytes();
+        for (int i = 0; i < 10; i++) dearestCalls(x);
+        long bytes = thread.getCurrentThreadAllocatedBytes() - before;
+        Due.due("bytes of what 140 calls made: " + bytes, bytes < 2000, true);
+    }
+
+    private static void dearestCalls(StormOffice x) {
+        x.box(12, 500, 0);
+        x.missed(12, 3);
+        x.paths(12);
+        x.count(719, 0, 1);
+        x.quarrel(20);
+        x.posts(3, 0);
+        x.found(0, 20);
+        x.entries(0, 2);
+        x.asks(3, 9);
+        x.feed(0x6c696674, 0x20776865, 0x6e203120, 0x3d203120, 0x3b0a0a20);
+        x.rules();
+        x.minutes(1);
+        x.judge();
+        x.safe(20, 8);
     }
 
     private static void face() {

@@ -189,6 +189,13 @@ public final class PathsEdgesTest {
             Edges.due(paths + " PATHS, part 1000", x.box(7, 1000, 0), 0);
             Edges.due(paths + " PATHS, part 1000", x.box(7, 1000, 1), 0);
         }
+        Edges.words(16, "some CELL of it has PEOPLE");
+        for (int people = 0; people <= 2; people++) {
+            StormOffice one = still(new int[] {6, 2}, new int[] {people, 9});
+            Edges.due("PEOPLE " + people + ", none may be MISSED", one.box(1, 0, 0), people == 0 ? 4 : 68);
+            Edges.due("PEOPLE " + people + ", one of two may be MISSED", one.box(1, 500, 0), people == 0 ? 0 : 64);
+            Edges.due("PEOPLE " + people + ", one of two may be MISSED", one.box(1, 500, 1), people);
+        }
         Edges.words(16, "the fewest PEOPLE (all of its COUNTIES)");
         StormOffice x = still(new int[] {0, 1}, new int[] {5, 6});
         Edges.due("5 and 6", x.box(1, 500, 0), 1);

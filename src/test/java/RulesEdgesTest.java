@@ -285,7 +285,19 @@ public final class RulesEdgesTest {
         good(text + "   ", 1);
         bad(LINE + "w", 1, 14);
         bad(LINE + "wait", 1, 18);
-        bad(" ".repeat(796) + "lift", 1, 800);
+        for (String last : new String[] {"lift", "lift when", "lift when 1", "lift when 1=1", "lift when 1=1)", "warn 1/9999"}) {
+            bad(" ".repeat(800 - last.length()) + last, 1, last.endsWith(")") ? 799 : 800);
+        }
+        good(" ".repeat(786) + LINE, 1);
+        // What end() cut off is not part of a token that stands at the end.
+        for (String whole : new String[] {"wait when 1=12345", "wait when 1=1and1", "waitx", "wait when nearx", "wait when 1=1;;"}) {
+            StormOffice x = new StormOffice();
+            Due.tape(x, whole);
+            x.end(whole.length() - 1);
+            boolean complete = whole.endsWith(";;");
+            Edges.due("cut behind '" + whole + "'", x.rules(), complete ? 1 : -1);
+            Edges.due("cut behind '" + whole + "', its place", x.fault(1), complete ? -1 : whole.length() - 1);
+        }
         bad("lift" + " ".repeat(796), 1, 800);
     }
 
@@ -490,6 +502,14 @@ public final class RulesEdgesTest {
             so("not (" + x + " and " + y + " or " + z + ")", !(a && b || c));
             so("not " + x + " or " + y + " and not not " + z, !a || b && c);
             so(x + " or " + y + " and " + z + " or " + y + " and not " + z, a || b);
+        }
+        for (int deep = 0; deep <= 8; deep++) {
+            // At each ( an or and an and wait for what comes behind it, and at last a sum and a product.
+            for (boolean is : both) {
+                String inner = "1=2 or 1=1 and 5=1+2*" + (is ? "2" : "3");
+                so("1=2 or 1=1 and (".repeat(deep) + inner + ")".repeat(deep), is);
+                so("1=2 or 1=1 and not (".repeat(deep / 2) + inner + ")".repeat(deep / 2), is == (deep / 2 % 2 == 0));
+            }
         }
         so("9-4-3=2", true);
         so("9-4+3=8", true);
