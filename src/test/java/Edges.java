@@ -29,7 +29,11 @@ final class Edges {
 
     /** What follows stands under this promise and these words of the document. */
     static void words(int promise, String words) {
-        heading = "Promise " + promise + " '" + words + "': ";
+        heading("Promise " + promise + " '" + words + "': ");
+    }
+
+    static void heading(String text) {
+        heading = text;
     }
 
     static void due(String theCase, long got, long want) {

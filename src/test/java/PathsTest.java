@@ -10,24 +10,24 @@ public final class PathsTest {
 
     private static void paths() {
         StormOffice x = new StormOffice();
-        Due.due("14 wrong", x.paths(0), -1);
-        Due.due("14 wrong", x.paths(13), -1);
-        Due.due("14 wrong", x.paths(Integer.MIN_VALUE), -1);
+        Due.due("Promise 14: wrong", x.paths(0), -1);
+        Due.due("Promise 14: wrong", x.paths(13), -1);
+        Due.due("Promise 14: wrong", x.paths(Integer.MIN_VALUE), -1);
         // x and y go apart: rows of n + 1 numbers that differ by 1 at most, counted for 12 and for 8 numbers.
-        for (int n = 1; n <= 12; n++) Due.due("14 paths " + n, x.paths(n), line(12, n) * line(8, n));
+        for (int n = 1; n <= 12; n++) Due.due("Promise 14: paths " + n, x.paths(n), line(12, n) * line(8, n));
         x.storm(16, 0);
-        Due.due("14 staying", x.paths(12), 96);
+        Due.due("Promise 14: staying", x.paths(12), 96);
         x.storm(1 << 3, 0);
-        Due.due("14 to the west", x.paths(3), 9 * 8);
+        Due.due("Promise 14: to the west", x.paths(3), 9 * 8);
         x.storm(1 << 3, 1);
-        Due.due("14 ahead of THE START", x.paths(1), 0);
+        Due.due("Promise 14: ahead of THE START", x.paths(1), 0);
         x.storm(511, 0);
         x.minutes(3);
         x.word(3, 0, 0);
-        Due.due("14 from MAYBE NOW", x.paths(1), 4);
-        Due.due("14 from MAYBE NOW", x.paths(2), 25);
+        Due.due("Promise 14: from MAYBE NOW", x.paths(1), 4);
+        Due.due("Promise 14: from MAYBE NOW", x.paths(2), 25);
         x.minutes(1);
-        Due.due("14 from MAYBE NOW", x.paths(1), 25);
+        Due.due("Promise 14: from MAYBE NOW", x.paths(1), 25);
     }
 
     private static long line(int width, int n) {
@@ -46,27 +46,27 @@ public final class PathsTest {
     private static void missed() {
         StormOffice x = new StormOffice();
         int[][] wrong = {{0, 0}, {13, 0}, {1, -1}, {1, 256}};
-        for (int[] w : wrong) Due.due("15 wrong", x.missed(w[0], w[1]), -1);
-        Due.due("15 nobody there", x.missed(12, 0), 0);
+        for (int[] w : wrong) Due.due("Promise 15: wrong", x.missed(w[0], w[1]), -1);
+        Due.due("Promise 15: nobody there", x.missed(12, 0), 0);
         x.storm(16, 0);
         x.land(5, 3, 1, 0);
         x.land(6, 3, 0, 0);
-        Due.due("15 one cell with PEOPLE", x.missed(2, 0), 1);
-        Due.due("15 its COUNTY in the BOX", x.missed(2, 8), 0);
-        Due.due("15 another COUNTY in the BOX", x.missed(2, 255 - 8), 1);
+        Due.due("Promise 15: one cell with PEOPLE", x.missed(2, 0), 1);
+        Due.due("Promise 15: its COUNTY in the BOX", x.missed(2, 8), 0);
+        Due.due("Promise 15: another COUNTY in the BOX", x.missed(2, 255 - 8), 1);
         x.storm(48, 0);
         x.word(0, 5, 0);
-        Due.due("15 the first CELL counts", x.missed(1, 0), 2);
+        Due.due("Promise 15: the first CELL counts", x.missed(1, 0), 2);
         x.land(5, 3, 0, 0);
         x.land(7, 2, 9, 0);
-        Due.due("15 the last CELL counts", x.missed(2, 0), 1);
-        Due.due("15 not reached", x.missed(1, 0), 0);
+        Due.due("Promise 15: the last CELL counts", x.missed(2, 0), 1);
+        Due.due("Promise 15: not reached", x.missed(1, 0), 0);
     }
 
     private static void bestBox() {
         StormOffice x = new StormOffice();
         int[][] wrong = {{0, 0, 0}, {13, 0, 0}, {1, -1, 0}, {1, 1001, 0}, {1, 0, -1}, {1, 0, 2}};
-        for (int[] w : wrong) Due.due("16 wrong", x.box(w[0], w[1], w[2]), -1);
+        for (int[] w : wrong) Due.due("Promise 16: wrong", x.box(w[0], w[1], w[2]), -1);
         // Four CELLS, each a PATH of its own: parts of 250.
         x.storm(16, 0);
         x.radar(0, 0, 11, 0);
@@ -77,17 +77,17 @@ public final class PathsTest {
         }
         x.land(50, 3, 500, 0);
         x.bare(0, 0);
-        Due.due("16 four paths", x.paths(1), 4);
-        Due.due("16 none missed", x.box(1, 0, 0), 15);
-        Due.due("16 its PEOPLE, all of its COUNTIES", x.box(1, 0, 1), 600);
-        Due.due("16 below a quarter", x.box(1, 249, 0), 15);
-        Due.due("16 a quarter", x.box(1, 250, 0), 7);
-        Due.due("16 a quarter", x.box(1, 250, 1), 90);
-        Due.due("16 half", x.box(1, 500, 0), 6);
-        Due.due("16 three quarters", x.box(1, 999, 0), 4);
-        Due.due("16 three quarters", x.box(1, 999, 1), 20);
-        Due.due("16 all", x.box(1, 1000, 0), 0);
-        Due.due("16 all", x.box(1, 1000, 1), 0);
+        Due.due("Promise 16: four paths", x.paths(1), 4);
+        Due.due("Promise 16: none missed", x.box(1, 0, 0), 15);
+        Due.due("Promise 16: its PEOPLE, all of its COUNTIES", x.box(1, 0, 1), 600);
+        Due.due("Promise 16: below a quarter", x.box(1, 249, 0), 15);
+        Due.due("Promise 16: a quarter", x.box(1, 250, 0), 7);
+        Due.due("Promise 16: a quarter", x.box(1, 250, 1), 90);
+        Due.due("Promise 16: half", x.box(1, 500, 0), 6);
+        Due.due("Promise 16: three quarters", x.box(1, 999, 0), 4);
+        Due.due("Promise 16: three quarters", x.box(1, 999, 1), 20);
+        Due.due("Promise 16: all", x.box(1, 1000, 0), 0);
+        Due.due("Promise 16: all", x.box(1, 1000, 1), 0);
     }
 
     private static void ties() {
@@ -101,9 +101,9 @@ public final class PathsTest {
         }
         x.bare(0, 0);
         // Two of four may be missed: {1, 2} has 10; one of three missed: {0, 1, 2} before {1, 2, 3}, both 20.
-        Due.due("16 fewest PEOPLE", x.box(1, 500, 0), 6);
-        Due.due("16 least number", x.box(1, 250, 0), 7);
-        Due.due("16 least number", x.box(1, 750, 0), 2);
+        Due.due("Promise 16: fewest PEOPLE", x.box(1, 500, 0), 6);
+        Due.due("Promise 16: least number", x.box(1, 250, 0), 7);
+        Due.due("Promise 16: least number", x.box(1, 750, 0), 2);
         // COUNTY 3 has two of four PATHS: {3} and {0, 1} miss as many and have as many PEOPLE.
         StormOffice y = new StormOffice();
         y.storm(16, 0);
@@ -114,16 +114,16 @@ public final class PathsTest {
             y.blind(0, c * 3, true);
         }
         y.bare(0, 0);
-        Due.due("16 fewest COUNTIES", y.box(1, 500, 0), 8);
-        Due.due("16 fewest COUNTIES", y.box(1, 500, 1), 10);
-        Due.due("16 nobody's COUNTY stays out", y.box(1, 0, 0), 11);
+        Due.due("Promise 16: fewest COUNTIES", y.box(1, 500, 0), 8);
+        Due.due("Promise 16: fewest COUNTIES", y.box(1, 500, 1), 10);
+        Due.due("Promise 16: nobody's COUNTY stays out", y.box(1, 0, 0), 11);
         StormOffice z = new StormOffice();
         z.storm(32, 0);
         z.word(0, 5, 0);
         z.land(5, 4, 7, 0);
         z.land(7, 6, 9, 0);
         z.land(8, 7, 1, 0);
-        Due.due("16 the first CELL, which is left at once, and the last", z.box(2, 0, 0), 16 + 64);
-        Due.due("16 their PEOPLE", z.box(2, 0, 1), 16);
+        Due.due("Promise 16: the first CELL, which is left at once, and the last", z.box(2, 0, 0), 16 + 64);
+        Due.due("Promise 16: their PEOPLE", z.box(2, 0, 1), 16);
     }
 }
