@@ -1,8 +1,4 @@
-import java.io.ByteArrayOutputStream;
 import java.io.IOException;
-import java.io.PrintStream;
-import java.net.URL;
-import java.net.URLClassLoader;
 import java.nio.charset.StandardCharsets;
 import java.nio.file.Files;
 import java.nio.file.Path;
@@ -12,8 +8,6 @@ import java.util.regex.Matcher;
 import java.util.regex.Pattern;
 import java.util.stream.Collectors;
 import java.util.stream.Stream;
-import javax.tools.JavaCompiler;
-import javax.tools.ToolProvider;
 
 /** README.md: its example is compiled and run, and its way to run the tests is there. Run from the project's root. */
 public final class ReadmeTest {
@@ -38,29 +32,20 @@ public final class ReadmeTest {
     private static void example(String program, String printed) throws Exception {
         Path dir = Files.createTempDirectory("readme");
         try {
-            Path source = Files.writeString(dir.resolve("Example.java"), program);
-            JavaCompiler javac = ToolProvider.getSystemJavaCompiler();
-            int code = javac.run(null, System.out, System.out, "-Xlint:all", "-Werror", "-d", dir.toString(),
-                    "src/main/java/StormOffice.java", source.toString());
-            Due.due("the example compiles", code, 0);
-            if (code == 0) same(run(dir).lines().toList(), printed.lines().toList());
+            String source = Files.writeString(dir.resolve("Example.java"), program).toString();
+            run("javac", "-Xlint:all", "-Werror", "-d", dir.toString(), "src/main/java/StormOffice.java", source);
+            same(run("java", "-cp", dir.toString(), "Example").lines().toList(), printed.lines().toList());
         } finally {
             remove(dir);
         }
     }
 
-    private static String run(Path dir) throws Exception {
-        PrintStream before = System.out;
-        ByteArrayOutputStream bytes = new ByteArrayOutputStream();
-        // Without a parent, so that the class is the one that was compiled with the example.
-        try (URLClassLoader loader = new URLClassLoader(new URL[] {dir.toUri().toURL()}, null);
-                PrintStream out = new PrintStream(bytes, true, StandardCharsets.UTF_8)) {
-            System.setOut(out);
-            loader.loadClass("Example").getMethod("main", String[].class).invoke(null, (Object) new String[0]);
-        } finally {
-            System.setOut(before);
-        }
-        return bytes.toString(StandardCharsets.UTF_8);
+    /** What a command prints, which ends with code 0. */
+    private static String run(String... command) throws Exception {
+        Process process = new ProcessBuilder(command).redirectError(ProcessBuilder.Redirect.INHERIT).start();
+        String printed = new String(process.getInputStream().readAllBytes(), StandardCharsets.UTF_8);
+        Due.due(command[0] + " ends with 0", process.waitFor(), 0);
+        return printed;
     }
 
     private static void same(List<String> got, List<String> want) {
